@@ -208,6 +208,7 @@ public final class OnlineHull {
     private int growRing(int x, int y) {
         int first = firstSeen(x, y, RIGHT_HAND_OR_LINE);
         int last = lastSeen(x, y, RIGHT_HAND_OR_LINE);
+        // A point outside always sees a side: this only keeps the indices below safe.
         if (!isCorner(first) || !isCorner(last)) {
             return 0;
         }
