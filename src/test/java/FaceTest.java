@@ -27,13 +27,13 @@ public final class FaceTest {
         due.part("the face");
         Set<String> shown = shown();
         for (String member : FACE) {
-            due.is("has " + member, shown.contains(member) ? 1 : 0, 1);
+            due.holds("has " + member, shown.contains(member));
         }
         for (String member : shown) {
-            due.is("asks for " + member, FACE.contains(member) ? 1 : 0, 1);
+            due.holds("asks for " + member, FACE.contains(member));
         }
         int modifiers = OnlineHull.class.getModifiers();
-        due.is("public final", Modifier.isPublic(modifiers) && Modifier.isFinal(modifiers) ? 1 : 0, 1);
+        due.holds("public final", Modifier.isPublic(modifiers) && Modifier.isFinal(modifiers));
         due.is("BAD", OnlineHull.BAD, -1);
         due.is("FULL", OnlineHull.FULL, -2);
         due.end();
