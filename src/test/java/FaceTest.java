@@ -5,7 +5,7 @@ import java.lang.reflect.Modifier;
 import java.util.Set;
 import java.util.TreeSet;
 
-/** The class shows the document's face and nothing else. */
+/** The class shows the document's face and nothing else, and no private method has a name of the face. */
 public final class FaceTest {
     private static final Set<String> FACE = new TreeSet<>(Set.of(
             "public static final int OnlineHull.BAD",
@@ -34,9 +34,16 @@ public final class FaceTest {
         }
         int modifiers = OnlineHull.class.getModifiers();
         due.holds("public final", Modifier.isPublic(modifiers) && Modifier.isFinal(modifiers));
+        for (Method m : OnlineHull.class.getDeclaredMethods()) {
+            due.holds("a name of its own for " + m, !Modifier.isPrivate(m.getModifiers()) || !isPublicName(m.getName()));
+        }
         due.is("BAD", OnlineHull.BAD, -1);
         due.is("FULL", OnlineHull.FULL, -2);
         due.end();
+    }
+
+    private static boolean isPublicName(String name) {
+        return FACE.stream().anyMatch(member -> member.contains("." + name + "("));
     }
 
     private static Set<String> shown() {
